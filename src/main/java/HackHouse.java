@@ -7,6 +7,7 @@ public final class HackHouse {
     private static final int SHEETS = 3;
     private static final int MOST_GAMES = 12;
     private static final int LAST_HOUR = 9999;
+    private static final int NO_HOUR = 2 * LAST_HOUR;
     private static final int LONGEST_PASS = 48;
     private static final int LONGEST_WORK = 6;
     private static final int LANES = 9;
@@ -251,7 +252,7 @@ public final class HackHouse {
                 && isWithin(from, 0, LAST_Y) && isWithin(to, 0, LAST_Y);
     }
 
-    /** What a stone that is not on the sheet has counts as the worst draw, which is outside of the house too. */
+    /** A stone that is not on the sheet counts as the worst draw, which is outside of the house too. */
     private static int distanceOf(int place) {
         if (place < 0) {
             return WORST_DRAW;
@@ -347,9 +348,9 @@ public final class HackHouse {
         return chosen;
     }
 
-    /** A sheet that nobody wishes for comes behind all others, so its hour is above all hours. */
+    /** A sheet that nobody wishes for comes behind all others, so its hour is above those of all games. */
     private int leastHourWished(int sheet) {
-        int least = Integer.MAX_VALUE;
+        int least = NO_HOUR;
         for (int i = 0; i < games.length; i++) {
             Game game = games[i];
             if (game != null && game.state == PLANNED && game.wish == sheet) {

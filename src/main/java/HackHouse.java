@@ -360,7 +360,7 @@ public final class HackHouse {
         return least;
     }
 
-    /** Each game that can't begin is moved on hour by hour, so all that are due have the same hour: numbers order them. */
+    /** A game that can't begin is moved on hour by hour, so all that are due have the same hour: numbers order them. */
     private void beginGames() {
         for (int i = 0; i < games.length; i++) {
             Game game = games[i];
@@ -669,7 +669,7 @@ public final class HackHouse {
             sweptTo = 0;
         }
 
-        /** Moves the stone until it stays or leaves; a stone that it hits then is in hit, and energy is what that one gets. */
+        /** Moves the stone until it stays or leaves; one that it hits is in hit then, and energy is what that one gets. */
         int glide(Sheet sheet) {
             hit = NONE;
             steps = 0;

@@ -669,7 +669,7 @@ public final class HackHouse {
             sweptTo = 0;
         }
 
-        /** Moves the stone until it stays or leaves; one that it hits is in hit then, and energy is what that one gets. */
+        /** Moves the stone until it stays or leaves; one that it hits is in hit then, with energy for it. */
         int glide(Sheet sheet) {
             hit = NONE;
             steps = 0;

@@ -694,7 +694,7 @@ public final class HackHouse {
         }
 
         boolean isSwept(int cell) {
-            return isWithin(cell, sweptFrom, sweptTo);
+            return cell >= sweptFrom && cell <= sweptTo;
         }
 
         int restingPlace() {

@@ -45,7 +45,7 @@ public final class ReadmeTests {
   /** The lines that the commands print, and behind them the exit code. */
   private static List<String> outcome(String commands, Path place) throws IOException, InterruptedException {
     Process shell = new ProcessBuilder("sh", "-e", "-c", commands).directory(place.toFile())
-        .redirectErrorStream(true).start();
+        .redirectError(ProcessBuilder.Redirect.INHERIT).start();
     shell.getOutputStream().close();
     String printed = new String(shell.getInputStream().readAllBytes());
     List<String> lines = new ArrayList<>(printed.lines().toList());
